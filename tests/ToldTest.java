@@ -103,7 +103,7 @@ public final class ToldTest {
         x.keep();
         x.moveTo(1, 0);
         x.insertRows(1);
-        check.due("16: the line was cut", Check.lines(x), "ab/" + "/cd");
+        check.due("16: the line was cut", Check.lines(x), "ab//cd");
     }
 
     private static void signs() {

@@ -40,6 +40,7 @@ public final class WritingTest {
             check.due("2: the first cell of " + code, x.cell(0, 0), code);
             check.due("2: the cell behind the first of " + code, x.cell(0, 1), size == 2 ? code : 32);
             check.due("2: the third cell at " + code, x.cell(0, 2), 32);
+            check.due("2: the signs of the row with " + code, x.row(0, 3), code == 32 ? 0 : 1);
             check.due("2: feed(" + code + ") is a change", x.told(10), 1);
         }
     }
