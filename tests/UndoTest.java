@@ -54,41 +54,28 @@ public final class UndoTest {
     private static void eachChange() {
         for (int which = 0; which <= CHANGES; which++) {
             PouredScreen x = start();
-            String before = all(x);
+            String before = Check.all(x);
             check.due("22: change " + which + " is not refused", change(x, which) >= 0 ? 1 : 0, 1);
-            check.due("22: change " + which + " does something", all(x).equals(before) ? 1 : 0, 0);
+            check.due("22: change " + which + " does something", Check.all(x).equals(before) ? 1 : 0, 0);
             check.due("22: undo() of change " + which, x.undo(), 7);
-            check.due("22: the state behind it", all(x), before);
+            check.due("22: the state behind it", Check.all(x), before);
         }
-    }
-
-    /** All that is told, but the number of remembered states. */
-    private static String all(PouredScreen x) {
-        StringBuilder shown = new StringBuilder();
-        for (int what = 0; what <= 9; what++) {
-            shown.append(x.told(what)).append(' ');
-        }
-        shown.append(Check.screen(x)).append(' ').append(Check.marks(x)).append(' ').append(Check.lines(x));
-        for (int which = 0; which <= x.told(6); which++) {
-            shown.append(' ').append(Check.cursor(x, which));
-        }
-        return shown.toString();
     }
 
     private static void eightStates() {
         PouredScreen x = new PouredScreen();
         String[] states = new String[20];
         for (int k = 0; k < 20; k++) {
-            states[k] = all(x);
+            states[k] = Check.all(x);
             x.feed('a' + k);
             check.due("22: states behind change " + k, x.told(10), Math.min(8, k + 1));
         }
         for (int k = 19; k >= 12; k--) {
             check.due("22: undo()", x.undo(), k - 12);
-            check.due("22: the state ahead of change " + k, all(x), states[k]);
+            check.due("22: the state ahead of change " + k, Check.all(x), states[k]);
         }
         check.due("22: a ninth undo()", x.undo(), PouredScreen.STATE);
-        check.due("22: it changes nothing", all(x), states[12]);
+        check.due("22: it changes nothing", Check.all(x), states[12]);
     }
 
     private static void refusedCalls() {
