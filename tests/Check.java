@@ -120,6 +120,21 @@ final class Check {
         return x;
     }
 
+    /**
+     * One line of 32 full rows, the most that there can be: in each row a sign in the last cell, and
+     * one that goes on. The last sign is a !, and the cursor is pending behind it.
+     */
+    static PouredScreen fullestLine() {
+        PouredScreen x = sized(20, 8);
+        for (int k = 0; k < 31; k++) {
+            x.moveTo(Math.min(7, k), 19);
+            type(x, "yz");
+        }
+        x.moveTo(7, 19);
+        x.feed('!');
+        return x;
+    }
+
     // ---- texts
 
     /** The rows of the screen, each up to its last cell that is not blank, with _ for a blank cell. */

@@ -35,6 +35,7 @@ public final class EdgeLinesTest {
         refusedAreNotRecorded();
         eightStates();
         latestState();
+        allOfAState();
         check.end();
     }
 
@@ -185,21 +186,9 @@ public final class EdgeLinesTest {
         check.due("line(0, 0)", x.line(0, 0), 7);
     }
 
-    /** The line of 32 full rows: from the first row on, a sign in the last cell and one that goes on. */
-    private static PouredScreen fullestScreen() {
-        PouredScreen x = Check.sized(20, 8);
-        for (int k = 0; k < 31; k++) {
-            x.moveTo(Math.min(7, k), 19);
-            Check.type(x, "yz");
-        }
-        x.moveTo(7, 19);
-        x.feed('!');
-        return x;
-    }
-
     private static void fullestLine() {
         check.sentence("LINES, promises 16 to 19", "The cells of a line are those of its rows, one row behind the other:");
-        PouredScreen x = fullestScreen();
+        PouredScreen x = Check.fullestLine();
         check.due("the history", x.told(5), 24);
         check.due("one line", x.told(7), 1);
         check.due("its rows", x.line(0, 1), 32);
@@ -212,6 +201,7 @@ public final class EdgeLinesTest {
         check.due("sign(0, 619)", x.sign(0, 619), 'y');
         check.due("the mark of the cursor", Check.cursor(x, 0), "7,19:0,640p");
         check.due("ifWidth(4)", x.ifWidth(4), 160);
+        check.due("ifWidth(9)", x.ifWidth(9), 72);
         check.due("ifWidth(19)", x.ifWidth(19), 34);
         check.due("ifWidth(20)", x.ifWidth(20), 32);
         check.due("widthFor(32)", x.widthFor(32), 20);
@@ -233,6 +223,13 @@ public final class EdgeLinesTest {
         for (int cell = 0; cell < 8; cell++) {
             x.moveTo(cell / 4, cell % 4);
             check.due("the mark in cell " + cell, x.cursor(0, 3), due[cell]);
+        }
+        x = Check.typed(4, 6, "x\nabcdefghi\ny");
+        check.due("lines of one row, three rows, and one", Check.marks(x), "|-ww---");
+        String[] places = {"0,1:0,1", "1,1:1,1", "2,1:1,5", "3,1:1,9", "4,1:2,1", "5,1:3,1"};
+        for (int row = 0; row < 6; row++) {
+            x.moveTo(row, 1);
+            check.due("line and mark in row " + row, Check.cursor(x, 0), places[row]);
         }
         x = Check.typed(4, 3, "abcDe");
         x.moveTo(0, 3);
@@ -355,6 +352,12 @@ public final class EdgeLinesTest {
         check.due("the first row is dropped", x.sign(0, 0), '4');
         check.due("the signs that are left of its line", x.line(0, 0), 16);
         check.due("the rows that count", x.told(8), 26);
+        x = longLines(7, 6, "");
+        x.moveTo(0, 0);
+        check.due("resize(4, 2) into 30 rows", x.resize(4, 2), 30);
+        check.due("the first line has its last row left", Check.lines(x).substring(0, 9), "678-/b123");
+        check.due("that row has no wrap", x.row(-24, 0), 0);
+        check.due("the one behind it has", x.row(-23, 0), 1);
     }
 
     /** Four signs in 10 columns and the cursor at one of them, poured. */
@@ -622,5 +625,44 @@ public final class EdgeLinesTest {
             }
         }
         check.due("states", x.told(10), 4);
+    }
+
+    private static void allOfAState() {
+        check.sentence("CHANGES, promise 22", "record the state before it (all but the remembered states)");
+        PouredScreen x = Check.typed(5, 3, "abcdEfghijKlm\nno");
+        x.keep();
+        x.moveTo(0, 4);
+        String[] before = new String[8];
+        for (int k = 0; k < 8; k++) {
+            before[k] = Check.all(x);
+            severalChanges(x, k);
+        }
+        for (int k = 7; k >= 0; k--) {
+            check.due("undo() with states left", x.undo(), k);
+            check.due("all as ahead of change " + k, Check.all(x), before[k]);
+        }
+        x = Check.typed(4, 2, "abcdefgh");
+        x.feed('i');
+        check.due("cells that are not blank", x.told(9), 5);
+        x.undo();
+        check.due("cells of the screen behind undo() of scrolling", x.told(9), 8);
+        check.due("rows that count then", x.told(8), 2);
+        check.due("the history then", x.told(5), 0);
+        x.feed(10);
+        check.due("a line feed then, its blank row", Check.screen(x), "efgh/");
+    }
+
+    /** Changes of which each touches another part of the state. */
+    private static void severalChanges(PouredScreen x, int which) {
+        switch (which) {
+            case 0: x.setRegion(1, 2); break;
+            case 1: x.keep(); break;
+            case 2: x.resize(9, 7); break;
+            case 3: x.setRegion(0, 1); break;
+            case 4: x.back(); break;
+            case 5: x.eraseScreen(2); break;
+            case 6: x.resize(4, 2); break;
+            default: x.back(); break;
+        }
     }
 }

@@ -255,6 +255,11 @@ public final class EdgePromisesTest {
         x.setRegion(0, 1);
         x.eraseScreen(2);
         check.due("the history is not erased", Check.lines(x), "a/");
+        x = allFull();
+        check.due("eraseScreen(2) with all full", x.eraseScreen(2), 160);
+        check.due("the oldest row of a full history", x.sign(0, 0), 'a');
+        check.due("the latest one", x.sign(23, 0), 'Z');
+        check.due("blank rows of the screen", Check.screen(x), "///////");
         x = lettered(0, 0);
         x.setRegion(0, 1);
         x.eraseScreen(0);
@@ -973,7 +978,7 @@ public final class EdgePromisesTest {
     private static PouredScreen allFull() {
         PouredScreen x = Check.sized(20, 8);
         x.moveTo(7, 0);
-        for (int k = 0; k < 24; k++) {
+        for (int k = 0; k < 31; k++) {
             x.feed(k % 2 == 0 ? 'a' : 'Z');
             x.feed(13);
             x.feed(10);
@@ -1062,6 +1067,8 @@ public final class EdgePromisesTest {
         check.due("digest() with all full in 4 columns", x.digest(), computed(x));
         x.resize(20, 8);
         check.due("digest() with all full in 20 columns again", x.digest(), computed(x));
+        x = Check.fullestLine();
+        check.due("digest() with the fullest line", x.digest(), computed(x));
     }
 
     private static void digestOfAll() {

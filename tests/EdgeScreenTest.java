@@ -502,6 +502,24 @@ public final class EdgeScreenTest {
         x.moveTo(3, 0);
         x.feed(10);
         check.due("rows that have the same one behind them keep theirs", Check.marks(x), "|-w--");
+        x = wrapped(0);
+        x.setRegion(0, 2);
+        x.moveTo(2, 0);
+        x.feed(10);
+        check.due("a region from row 0 on scrolls", Check.screen(x), "efgh/ijkl//m");
+        check.due("its last row had the one behind the region behind it", Check.marks(x), "w|w---");
+        x = Check.typed(4, 4, "abcdefghijklmnopqrstuvwxyz");
+        check.due("wraps of the history", Check.marks(x), "www|www-");
+        for (int k = 0; k < 21; k++) {
+            x.moveTo(3, 0);
+            x.feed(10);
+        }
+        x.moveTo(0, 0);
+        Check.type(x, "abcdefghijklm");
+        x.setRegion(0, 2);
+        x.moveTo(2, 0);
+        check.due("it scrolls into a full history", x.feed(10), 24);
+        check.due("its last row loses its wrap as well", Check.marks(x).substring(23), "w|w---");
         x = marked(1, 0);
         x.insertRows(1);
         check.due("a gap is lost, too", Check.marks(x), "|---");
@@ -630,6 +648,18 @@ public final class EdgeScreenTest {
         x.moveTo(1, 3);
         x.feed(10);
         check.due("the blank row has no marks", Check.marks(x), "ww|--");
+        x = Check.typed(4, 3, "x\nabcDe");
+        check.due("a gap in row 1", Check.marks(x), "|-g-");
+        x.setRegion(1, 2);
+        x.moveTo(2, 0);
+        x.feed(10);
+        check.due("the blank row has no gap of the one that was taken away", Check.marks(x), "|---");
+        x = Check.typed(4, 2, "abcDeF");
+        check.due("a gap in the history", Check.marks(x), "g|g-");
+        for (int k = 0; k < 26; k++) {
+            x.feed(10);
+        }
+        check.due("blank rows have none of those that were dropped", Check.marks(x), "------------------------|--");
     }
 
     private static void lineFeedMoves() {

@@ -1,4 +1,5 @@
 import java.util.Random;
+import java.util.Set;
 
 /** All promises: runs of 512 calls, each answer compared with the one of the plain program in Model.java. */
 public final class ModelTest {
@@ -8,6 +9,11 @@ public final class ModelTest {
         "feed", "moveTo", "setRegion", "eraseLine", "eraseScreen", "insertRows", "deleteRows", "insertCells",
         "deleteCells", "keep", "back", "resize", "cell", "row", "line", "sign", "cursor", "ifWidth", "widthFor",
         "told", "undo", "digest"};
+    private static final Set<String> ONE_ARGUMENT = Set.of("feed", "eraseLine", "eraseScreen", "insertRows", "deleteRows",
+        "insertCells", "deleteCells", "keep", "back", "ifWidth", "widthFor", "told", "undo", "digest");
+    private static final int[] EDGES = {
+        Integer.MIN_VALUE, Integer.MIN_VALUE + 1, -65536, -26, -25, -24, -2, -1, 0, 1, 2, 3, 4, 5, 7, 8, 9, 10, 11, 12, 13, 14, 19, 20,
+        21, 22, 24, 25, 31, 32, 33, 40, 41, 64, 65, 90, 91, 126, 127, 256, 639, 640, 65536, Integer.MAX_VALUE - 1, Integer.MAX_VALUE};
     private static final int FEED = 0;
     /** How often each call comes, in the four kinds of runs: mixed, writing, resizing, moving rows and cells. */
     private static final int[][] WEIGHTS = {
@@ -21,6 +27,9 @@ public final class ModelTest {
     public static void main(String[] args) {
         for (int run = 0; run < RUNS; run++) {
             play(run);
+        }
+        for (int which = 0; which < NAMES.length; which++) {
+            everyArgument(which);
         }
         check.end();
     }
@@ -43,6 +52,38 @@ public final class ModelTest {
                 check.due("run " + run + ": digest()", x.digest(), model.digest());
                 return;
             }
+        }
+    }
+
+    /** Each pair of arguments at an edge, or far from it, on a few states; no call may throw, whatever they are. */
+    private static void everyArgument(int which) {
+        for (int state = 0; state < 4; state++) {
+            for (int first : EDGES) {
+                for (int second : EDGES) {
+                    int[] arguments = {first, second};
+                    PouredScreen x = new PouredScreen();
+                    Model model = new Model();
+                    bring(x, model, state);
+                    String call = NAMES[which] + "(" + first + ", " + second + ") on state " + state;
+                    check.due(call, answer(x, which, arguments), answer(model, which, arguments));
+                    check.due("digest() behind " + call, x.digest(), model.digest());
+                    if (ONE_ARGUMENT.contains(NAMES[which])) {
+                        break;
+                    }
+                }
+            }
+        }
+    }
+
+    /** State 0 is a new one, 1 has wraps, a region and kept cursors, 2 is pending out of the region, 3 has much history. */
+    private static void bring(PouredScreen x, Model model, int state) {
+        int[][] calls = {
+            {0, 'a', 0}, {11, 5, 3}, {0, 'B', 0}, {0, 'C', 0}, {0, 'D', 0}, {9, 0, 0}, {0, 'e', 0}, {0, 'F', 0}, {1, 0, 3}, {9, 0, 0},
+            {2, 0, 1}, {1, 2, 3}, {0, 'G', 0}, {11, 4, 2}, {0, 'h', 0}, {0, 10, 0}, {0, 10, 0}, {0, 'I', 0}, {9, 0, 0}, {1, 0, 2}};
+        int[] counts = {0, 12, 13, calls.length};
+        for (int k = 0; k < counts[state]; k++) {
+            int[] arguments = {calls[k][1], calls[k][2]};
+            check.due("call " + k + " to state " + state, answer(x, calls[k][0], arguments), answer(model, calls[k][0], arguments));
         }
     }
 
